@@ -10,11 +10,11 @@ public final class SnowRoad {
     private static final int MOST_SPARED = 2;
     private static final int STRONGEST = 9, STRONGEST_WIND = 9, FIRST_WIND = 2, GALE_ADDS = 3;
     private static final int DEEPEST_SEEN = 99;
-    private static final int EASIEST_TIMES = 3;
+    private static final int PUSHES_TIMES = 3;
     private static final int PASSABLE = 4, MILES_AN_HOUR = 3;
 
     private static final int TEXTS = 4;
-    private static final int LAND_TEXT = 0, FALL_TEXT = 1, PLOUGH_TEXT = 2, BUS_TEXT = 3;
+    private static final int LAND_TEXT = 0, FALL_TEXT = 1, PLOUGH_TEXT = 2;
     private static final int[] TEXT_ROOM = {12, 24, 15, 8};
     private static final int PLOUGH_BYTES = 3, PLOUGH_STEP = 4;
 
@@ -619,15 +619,19 @@ public final class SnowRoad {
     }
 
     private void takeText(int text) {
-        Text source = texts[text];
-        if (text == LAND_TEXT) {
-            told.takeLand(source);
-        } else if (text == FALL_TEXT) {
-            told.takeFall(source);
-        } else if (text == PLOUGH_TEXT) {
-            told.takePloughs(source);
-        } else {
-            told.takeBuses(source);
+        switch (text) {
+            case LAND_TEXT:
+                told.takeLand(texts[text]);
+                break;
+            case FALL_TEXT:
+                told.takeFall(texts[text]);
+                break;
+            case PLOUGH_TEXT:
+                told.takePloughs(texts[text]);
+                break;
+            default:
+                told.takeBuses(texts[text]);
+                break;
         }
         changed();
     }
@@ -997,7 +1001,7 @@ public final class SnowRoad {
             }
             int next = wayNow[p] == EAST ? mileNow[p] + 1 : mileNow[p] - 1;
             int depth = now[next];
-            if (depth > EASIEST_TIMES * strength) {
+            if (depth > PUSHES_TIMES * strength) {
                 stuckHours[p]++;
                 now[next] -= strength;
                 return strength;
