@@ -4,6 +4,7 @@ public final class HoursBoundariesTest extends Sentences {
         miles();
         hours();
         atFirst();
+        snowAheadOfWind();
         cuttings();
         windAndNoMore();
         allAtOnce();
@@ -20,7 +21,9 @@ public final class HoursBoundariesTest extends Sentences {
         busWaits();
         busIsOver();
         deepCalls();
+        ploughBehindAnHour();
         atCalls();
+        ridesOfOneNotStarted();
         ridesCalls();
         snowCalls();
         overCalls();
@@ -66,6 +69,16 @@ public final class HoursBoundariesTest extends Sentences {
             }
         }
         due("nothing to clear", road("", "", "a9e", "").cleared(0, 0), 0);
+    }
+
+    private static void snowAheadOfWind() {
+        sentence(0, "In an HOUR first snow falls");
+        depths(windy("ohhhhhhhhhhh", "4", 4), 0, 0, 0, 8, 4);
+        sentence(0, "Then THE WIND carries it");
+        depths(windy("ohhhhhhhhhhh", "44", 3), 1, 0, 2, 14, 8);
+        SnowRoad cutAhead = windy("ohhhhhhhhhhh", "4", 4);
+        cutAhead.event(2, 0, 1);
+        depths(cutAhead, 0, 0, 0, 4, 4);
     }
 
     private static void cuttings() {
@@ -412,6 +425,25 @@ public final class HoursBoundariesTest extends Sentences {
         bad("deep", mile -> x.deep(0, mile));
     }
 
+    private static void ploughBehindAnHour() {
+        sentence(0, "Of a PLOUGH: the MILE; which way it goes (0 e, 1 w); how much it CLEARED in that HOUR.");
+        SnowRoad one = road(HEDGES, "4", "k1e", "");
+        int[][] behind = {{10, 0, 1}, {11, 0, 3}};
+        one.event(1, 2, 0);
+        due("broken, as it was", one.at(2, 0, 1), 0);
+        one.back();
+        one.event(2, 2, 10);
+        one.event(2, 2, 10);
+        for (int hour = 0; hour < 2; hour++) {
+            for (int what = 0; what < 3; what++) {
+                due("at(" + hour + ", 0, " + what + ")", one.at(hour, 0, what), behind[hour][what]);
+            }
+        }
+        due("it turns and goes", one.at(2, 0, 0), 10);
+        due("it goes west", one.at(2, 0, 1), 1);
+        due("1 is left behind two thaws", one.at(2, 0, 2), 1);
+    }
+
     private static void atCalls() {
         sentence(15, "The MILE (what = 0), which way (1), how much CLEARED (2) of a PLOUGH. BAD.");
         SnowRoad x = lively();
@@ -431,6 +463,21 @@ public final class HoursBoundariesTest extends Sentences {
         due("in that hour alone", four.at(22, 3, 2), 0);
     }
 
+    private static void ridesOfOneNotStarted() {
+        sentence(0, "Of a BUS: the MILE (NONE: not started).");
+        SnowRoad shut = road(HEDGES, "9", "", "abx");
+        due("in its hour it is at mile 0", shut.rides(0, 0), 0);
+        due("it is not started", shut.rides(0, 1), NONE);
+        due("in its hour it is at mile 0", shut.rides(1, 1), 0);
+        due("it is not started", shut.rides(22, 2), NONE);
+        due("in its hour it is at mile 0", shut.rides(23, 2), 0);
+        sentence(0, "in that HOUR and each later one it goes on eastward");
+        SnowRoad free = road("", "", "", "u");
+        for (int hour = 0; hour < 24; hour++) {
+            due("rides(" + hour + ", 0)", free.rides(hour, 0), hour < 20 ? NONE : Math.min(11, 3 * (hour - 19)));
+        }
+    }
+
     private static void ridesCalls() {
         sentence(16, "The MILE of a BUS; NONE. BAD.");
         SnowRoad x = road("", "", "", "ahx");
@@ -447,6 +494,14 @@ public final class HoursBoundariesTest extends Sentences {
     }
 
     private static void snowCalls() {
+        sentence(0, "SNOW behind an HOUR: all MILES together; how many MILES are deeper than 4.");
+        SnowRoad falling = road("hhhhhhhhhhhc", "2".repeat(24), "", "");
+        int[] deeper = {0, 1, 12, 12};
+        for (int hour = 0; hour < 4; hour++) {
+            due("snow(" + hour + ", 0)", falling.snow(hour, 0), 25 * (hour + 1));
+            due("snow(" + hour + ", 1)", falling.snow(hour, 1), deeper[hour]);
+        }
+        due("behind the last hour", falling.snow(23, 0), 25 * 24);
         sentence(17, "SNOW (what = 0), how many MILES are deeper than 4 (1). BAD.");
         due("none", new SnowRoad().snow(23, 0), 0);
         for (int fall = 0; fall <= 9; fall++) {
@@ -466,6 +521,13 @@ public final class HoursBoundariesTest extends Sentences {
     }
 
     private static void overCalls() {
+        sentence(0, "OVER of a BUS: the HOUR; NONE. WAITED of a BUS: in how many HOURS.");
+        SnowRoad thawed = road("hchhhhhhhhhh", "4", "", "avwx");
+        thawed.event(2, 20, 1);
+        due("over in the last hour", thawed.over(0, 0), 23);
+        due("it waited till the thaw", thawed.over(0, 1), 20);
+        due("too late", thawed.over(1, 0), NONE);
+        due("it never waited", thawed.over(1, 1), 0);
         sentence(18, "OVER (what = 0; NONE), WAITED (1). BAD.");
         String starts = "abcdefghijklmnopqrstuvwx";
         for (int hour = 0; hour < 24; hour++) {
@@ -484,6 +546,10 @@ public final class HoursBoundariesTest extends Sentences {
     }
 
     private static void clearedCalls() {
+        sentence(0, "CLEARED by a PLOUGH: in all; STUCK: in how many HOURS.");
+        SnowRoad slow = road(HEDGES, "4", "a1e", "");
+        due("eleven miles, in two hours each", slow.cleared(0, 0), 44);
+        due("in the first of two hours", slow.cleared(0, 1), 11);
         sentence(19, "CLEARED (what = 0), STUCK (1). BAD.");
         SnowRoad none = road("", "", "a1e", "");
         due("nothing", none.cleared(0, 0), 0);
@@ -516,6 +582,7 @@ public final class HoursBoundariesTest extends Sentences {
         sentence(0, "DEEPEST: the greatest depth of any MILE behind any HOUR; the first HOUR; the least MILE then.");
         deepestIs(new SnowRoad(), 0, 0, 0);
         deepestIs(road(HEDGES, "1", "", ""), 1, 0, 0);
+        deepestIs(road("hchhhhhhhhhh", "1", "", ""), 2, 0, 1);
         deepestIs(road("hhhhhhhhhhhc", later(23, "1"), "", ""), 2, 23, 11);
         deepestIs(road("hhhhhhcchhhc", "003", "", ""), 4, 2, 6);
         // Behind hour 5 miles 0 on are as deep as mile 6 was behind hour 2, and mile 6 no more.

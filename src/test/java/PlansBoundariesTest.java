@@ -24,6 +24,7 @@ public final class PlansBoundariesTest extends Sentences {
         strengths();
         lies();
         asks();
+        asksOfTheEnds();
         askCalls();
         chancesOfNone();
         chancesInLowestTerms();
@@ -63,6 +64,9 @@ public final class PlansBoundariesTest extends Sentences {
         SnowRoad last = road(HEDGES, later(11, "5"), "c9w", "llllllll");
         due("the last mile", last.begin(0, 0), 11);
         due("all eight", last.begin(0, 1), 8);
+        SnowRoad beyond = road(HEDGES, later(12, "5"), "c9w", "m");
+        due("it would have to begin behind the last mile", beyond.begin(0, 0), 0);
+        due("it would have to begin behind the last mile", beyond.begin(0, 1), 0);
         SnowRoad fourth = road(HEDGES, later(11, "5"), "a1e;a1e;a1e;c9w", "l");
         due("the fourth plough", fourth.begin(3, 1), 1);
     }
@@ -422,6 +426,26 @@ public final class PlansBoundariesTest extends Sentences {
         few.seen(5, 6, 0);
         due("6 to 9 are left", few.strengths(0), 960);
         due("those are alike in all hours", few.ask(0), 0);
+    }
+
+    private static void asksOfTheEnds() {
+        sentence(0, "the greatest number of those of STRENGTHS by which all MILES are as deep is least");
+        due("in mile 0 alone", road(HEDGES, "9", "b1w", "").ask(0), 0);
+        SnowRoad eleven = road(HEDGES, later(9, "9"), "b1e", "");
+        due("in mile 11 alone", eleven.ask(0), 9);
+        // Broken in hours 0 and 1; at 9 deep 1 and 2 stick, so that mile 2 is cleared later.
+        SnowRoad weak = road(HEDGES, "9", "a1e", "");
+        weak.event(1, 0, 0);
+        weak.seen(3, 2, 9);
+        due("1 and 2 are left", weak.strengths(0), 6);
+        due("1 and 2 differ", weak.ask(0), 2);
+        // Broken in hours 0 to 2; at 24 deep 8 and 9 go on, at 27 deep 9 alone.
+        SnowRoad strong = road(HEDGES, "66663", "a1e", "");
+        strong.event(1, 0, 0);
+        strong.event(1, 1, 0);
+        strong.seen(3, 1, 0);
+        due("8 and 9 are left", strong.strengths(0), 768);
+        due("8 and 9 differ", strong.ask(0), 4);
     }
 
     private static void askCalls() {

@@ -510,6 +510,13 @@ public final class SheetsBoundariesTest extends Sentences {
             x.seen(2, 0, 0);
             due("digest() of " + of + " ploughs", x.digest(), digestByCalls(x));
         }
+        // One event had better not be, a bus is on its way behind hour 9, and the other is over by 11 sixteenths.
+        SnowRoad spared = road(HEDGES, later(13, "5"), "j9e", "ni");
+        spared.event(1, 2, 0);
+        due("spare(0)", spared.spare(0), 0);
+        due("chance(5, 0, 0)", spared.chance(5, 0, 0), 11);
+        due("rides(9, 1)", spared.rides(9, 1), 6);
+        due("digest()", spared.digest(), digestByCalls(spared));
     }
 
     private static long digestByCalls(SnowRoad x) {

@@ -5,6 +5,7 @@ public final class TellingBoundariesTest extends Sentences {
     private static final String[] WHOLE = {"hchchchchchc", "987654321098765432109876", "a1e;b2w;k8e;l9w", "abcduvwx"};
 
     public static void main(String[] args) {
+        constants();
         manyCalls();
         landText();
         fallText();
@@ -40,6 +41,14 @@ public final class TellingBoundariesTest extends Sentences {
         SnowRoad x = new SnowRoad();
         tell(x, text, bytes);
         return x;
+    }
+
+    private static void constants() {
+        sentence(0, "public static final int NONE = -1, BAD = -2, NOT = -3, FULL = -4;");
+        due("NONE", SnowRoad.NONE, -1);
+        due("BAD", SnowRoad.BAD, -2);
+        due("NOT", SnowRoad.NOT, -3);
+        due("FULL", SnowRoad.FULL, -4);
     }
 
     private static void manyCalls() {
@@ -434,6 +443,12 @@ public final class TellingBoundariesTest extends Sentences {
             due("wind(" + far + ")", x.wind(far), BAD);
         }
         due("it is as it was", x.count(3), 9);
+        SnowRoad snowed = road("ohhhhhhhhhhh", "9", "", "");
+        due("deep(0, 0) by wind 2", snowed.deep(0, 0), 7);
+        for (int v = 0; v <= 9; v++) {
+            snowed.wind(v);
+            due("deep(0, 0) by wind " + v, snowed.deep(0, 0), 9 - v);
+        }
     }
 
     private static void eventNumbers() {
