@@ -26,6 +26,10 @@ public final class SnowRoad {
 
     private static final int[] DIGEST_PLOUGH_HOURS = {0, 5, 14};
 
+    // By hand, since LANGUAGE.md lists functions of Integer and Long, not their constants.
+    private static final int LEAST_INT = 1 << 31;
+    private static final long LEAST_LONG = 1L << 63;
+
     private static final int SHEETS = 4, FORMS = 3, MOST_ITEMS = 60, LOST = -1;
     private static final int BYTES = 0, SHORTS = 1;
     private static final int NULL_FOUND = 1, INDEX_FOUND = 2, CAST_FOUND = 3, STORE_FOUND = 4, SIZE_FOUND = 5;
@@ -280,11 +284,11 @@ public final class SnowRoad {
             return BAD;
         }
         int which = 0;
-        int least = Integer.MAX_VALUE;
+        int least = NONE;
         for (int mile = 0; mile < MILES; mile++) {
             tryLand(mile, HEDGE);
             int snow = trial.snowBehind(LAST_HOUR);
-            if (snow < least) {
+            if (least == NONE || snow < least) {
                 least = snow;
                 which = mile;
             }
@@ -391,10 +395,10 @@ public final class SnowRoad {
             }
         }
         int which = 0;
-        int least = Integer.MAX_VALUE;
+        int least = NONE;
         for (int hour = 0; hour < HOURS; hour++) {
             int alike = mostAlike(hour, fitting);
-            if (alike < least) {
+            if (least == NONE || alike < least) {
                 least = alike;
                 which = hour;
             }
@@ -404,7 +408,7 @@ public final class SnowRoad {
 
     public long chance(int c, int bus, int what) {
         if (c < 0 || c > SIXTEENTHS || outside(bus, told.buses) || outside(what, 2)) {
-            return Long.MIN_VALUE - BAD;
+            return LEAST_LONG - BAD;
         }
         countChoices();
         long above = 0;
@@ -470,12 +474,12 @@ public final class SnowRoad {
 
     public int get(int s, int form, int i) {
         if (outside(s, SHEETS) || outside(form, FORMS)) {
-            return Integer.MIN_VALUE;
+            return LEAST_INT;
         }
         int wrong = wrongWith(sheets[s], form, i);
         if (wrong != 0) {
             finding = wrong;
-            return Integer.MIN_VALUE;
+            return LEAST_INT;
         }
         return sheets[s].items[i];
     }
@@ -856,7 +860,7 @@ public final class SnowRoad {
         void takePloughs(Text text) {
             int meant = text.meant();
             ploughs = 0;
-            for (int i = 0; i + 2 < meant; i += PLOUGH_STEP) {
+            for (int i = 0; i + 2 < meant && ploughs < MOST_PLOUGHS; i += PLOUGH_STEP) {
                 begins[ploughs] = text.bytes[i] - 'a';
                 strong[ploughs] = text.bytes[i + 1] - '0';
                 ways[ploughs] = text.bytes[i + 2] == 'e' ? EAST : WEST;
